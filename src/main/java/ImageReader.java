@@ -610,7 +610,8 @@ public final class ImageReader {
         }
 
         private static boolean isNilFrom(Image image, int k, int from) {
-            for (int i = from; i < image.fieldCount(k); i++) {
+            int fields = image.fieldCount(k);
+            for (int i = from; i < fields; i++) {
                 if (image.fieldAt(k, i) != NIL) {
                     return false;
                 }
@@ -694,16 +695,14 @@ public final class ImageReader {
 
         private int reach(Image image) {
             clear(image);
-            if (image.count == 0) {
-                return 0;
-            }
             for (int k = 0; k < SPECIALS; k++) {
                 visit(image.objectOf(image.specials[k]));
             }
             for (int next = 0; next < reached && next < image.count; next++) {
                 int k = queue[next];
                 visit(image.objectOf(image.classAt(k)));
-                for (int i = 0; i < image.fieldCount(k); i++) {
+                int fields = image.fieldCount(k);
+                for (int i = 0; i < fields; i++) {
                     visit(image.objectOf(image.fieldAt(k, i)));
                 }
             }

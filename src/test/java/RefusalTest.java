@@ -64,7 +64,7 @@ public final class RefusalTest {
         for (int n = 0; n < 8; n++) {
             expect("head of " + n, Arrays.copyOf(good, n), n);
         }
-        int[][] wrong = {{0, 76}, {0, 78}, {1, 76}, {1, 205}, {2, 0}, {2, 2}, {3, 1}, {3, 255},
+        int[][] wrong = {{0, 76}, {0, 78}, {1, 76}, {1, 78}, {1, 205}, {2, 0}, {2, 2}, {3, 1}, {3, 255},
             {4, 11}, {4, 19}, {4, 140}, {5, 9}, {5, 15}, {5, 138}};
         for (int[] pair : wrong) {
             expect("byte " + pair[0] + " is " + pair[1], with(pair[0], pair[1]), pair[0]);
@@ -78,7 +78,11 @@ public final class RefusalTest {
         byte[] none = with(7, 0);
         expect("N is 0", none, 6);
         expect("N is 0, cut behind byte 6", Arrays.copyOf(none, 7), 7);
-        expect("N is 8192", with(6, 32), 6);
+        byte[] over = with(6, 32);
+        expect("N is above 8192", over, 6);
+        over[7] = 0;
+        expect("N is 8192", over, 6);
+        expect("N is 1, S0 is object 1, S1 object 2", with(7, 1), Model.specialPlace(1));
         expect("N is 65535 and cut", Arrays.copyOf(with(6, 255), 7), 7);
         byte[] most = with(6, 31);
         most[7] = (byte) 255;
@@ -383,15 +387,37 @@ public final class RefusalTest {
         expect("D and T for one another fit only the method", swapped, swapped.place(Model.BLOCK));
         for (int t : new int[] {0, 15, 16, 31}) {
             for (int d : new int[] {0, 31, 32, 63}) {
-                sized(t, d);
+                int a = Math.min(t, 15);
+                expect("T " + t + " D " + d, sized(a, t, d, 77), ImageReader.NONE);
+                heights(sized(a, t, d, 77), t, d);
             }
+        }
+        argumentsAndPrimitives();
+    }
+
+    private static void argumentsAndPrimitives() {
+        for (int t = 0; t < 32; t++) {
+            for (int a = 0; a < 16; a++) {
+                Model model = sized(a, t, 1, 1);
+                int place = a <= t ? ImageReader.NONE : model.place(Model.CONTEXT);
+                expect("A " + a + " T " + t, model, place);
+            }
+        }
+        for (int p : new int[] {0, 1, 128, 255}) {
+            expect("the least with P " + p, sized(0, 0, 0, p), ImageReader.NONE);
+            expect("the largest with P " + p, sized(15, 31, 63, p), ImageReader.NONE);
+        }
+        for (int p : new int[] {-1, 256, 511, 512, 16384, 32767}) {
+            Model model = sized(0, 0, 0, p);
+            expect("the least with P " + p, model, model.place(Model.CONTEXT));
         }
     }
 
-    private static void sized(int t, int d) {
+    /** The small image with another method, and contexts for it that are full. */
+    private static Model sized(int a, int t, int d, int p) {
         Model model = Model.small();
         int code = Model.object(Model.CODE);
-        model.thing(Model.METHOD).parts = new int[] {Model.methodHead(Math.min(t, 15), t, d, 77), code};
+        model.thing(Model.METHOD).parts = new int[] {Model.methodHead(a, t, d, p), code};
         int[] parts = Arrays.copyOf(model.thing(Model.CONTEXT).parts, 5 + t + d);
         Arrays.fill(parts, 5, parts.length, code);
         parts[2] = Model.number(t + d);
@@ -400,19 +426,24 @@ public final class RefusalTest {
         Arrays.fill(block, 6, block.length, code);
         block[2] = Model.number(d);
         model.thing(Model.BLOCK).parts = block;
+        return model;
+    }
+
+    private static void heights(Model model, int t, int d) {
         String what = "T " + t + " D " + d;
-        expect(what, model, ImageReader.NONE);
-        model.thing(Model.CONTEXT).parts[2] = Model.number(t + d + 1);
+        int[] context = model.thing(Model.CONTEXT).parts;
+        int[] block = model.thing(Model.BLOCK).parts;
+        context[2] = Model.number(t + d + 1);
         expect(what + ", height one more", model, model.place(Model.CONTEXT));
-        model.thing(Model.CONTEXT).parts[2] = Model.number(t - 1);
+        context[2] = Model.number(t - 1);
         expect(what + ", height below T", model, model.place(Model.CONTEXT));
-        model.thing(Model.CONTEXT).parts[2] = Model.number(t);
-        Arrays.fill(model.thing(Model.CONTEXT).parts, 5 + t, 5 + t + d, 0);
+        context[2] = Model.number(t);
+        Arrays.fill(context, 5 + t, 5 + t + d, 0);
         expect(what + ", height T", model, ImageReader.NONE);
-        model.thing(Model.BLOCK).parts[2] = Model.number(d + 1);
+        block[2] = Model.number(d + 1);
         expect(what + ", height of the block one more", model, model.place(Model.BLOCK));
-        model.thing(Model.BLOCK).parts[2] = Model.number(0);
-        Arrays.fill(model.thing(Model.BLOCK).parts, 6, 6 + d, 0);
+        block[2] = Model.number(0);
+        Arrays.fill(block, 6, 6 + d, 0);
         expect(what + ", height of the block 0", model, ImageReader.NONE);
     }
 
@@ -575,6 +606,10 @@ public final class RefusalTest {
         }
         scheduled("priority nil", Model.PROCESS, 2, 0, false);
         scheduled("priority an object", Model.PROCESS, 2, Model.object(2), false);
+        Model single = Model.small();
+        int one = single.add(Model.PLAIN_CLASS, Model.FIELDS, Model.number(1));
+        single.thing(Model.LISTS).parts[7] = Model.object(one);
+        expect("list 7 of one field", single, Model.specialPlace(14));
         longerThanNeeded();
         livingBlock();
     }
