@@ -3,8 +3,11 @@ import java.lang.management.ManagementFactory;
 /** What the dearest run of 512 calls makes, so that rows are used again and not made again. */
 public final class RoomTest {
 
-    /** Far below the room of a run, and far above what one reader needs. */
-    private static final long MOST_BYTES_MADE = 3_000_000;
+    /** Some 75,000 ints: one reader's rows for this image, with all that they grew out of. */
+    private static final long MOST_OF_A_RUN = 300_000;
+
+    /** Many readers may stand in one room, so that a new one is small. */
+    private static final long MOST_OF_A_READER = 15_000;
 
     public static void main(String[] args) {
         Due due = new Due("RoomTest");
@@ -12,17 +15,16 @@ public final class RoomTest {
             System.out.println("RoomTest: this machine does not count what is made");
             return;
         }
-        dearestRun();
+        byte[] bytes = longImage();
+        dearestRun(bytes);
         long before = made();
-        dearestRun();
-        long after = made();
-        due.isTrue("a run makes " + (after - before) + " bytes", after - before < MOST_BYTES_MADE);
+        dearestRun(bytes);
+        long run = made() - before;
+        due.isTrue("a run makes " + run + " bytes, few enough", run < MOST_OF_A_RUN);
         before = made();
-        for (int i = 0; i < 500; i++) {
-            new ImageReader();
-        }
-        after = made();
-        due.isTrue("500 readers make " + (after - before), after - before < 4 * MOST_BYTES_MADE);
+        new ImageReader();
+        long reader = made() - before;
+        due.isTrue("a reader makes " + reader + " bytes, few enough", reader < MOST_OF_A_READER);
         due.end();
     }
 
@@ -32,17 +34,21 @@ public final class RoomTest {
         return bean.getThreadAllocatedBytes(Thread.currentThread().getId());
     }
 
-    private static void dearestRun() {
+    private static byte[] longImage() {
         Model model = Model.small();
-        model.w = 18;
-        model.e = 14;
-        int chain = 0;
+        int chain = 1;
         while (model.place(model.things.size() + 1) < 6000) {
-            chain = model.add(Model.PAIR_CLASS, Model.FIELDS, Model.object(Math.max(1, chain)), 1);
+            chain = model.add(Model.PAIR_CLASS, Model.FIELDS, Model.object(chain), 1);
         }
         model.specials[49] = Model.object(chain);
+        return model.bytes();
+    }
+
+    /** Some 300 calls feed the image, the others read and write it over and over. */
+    private static void dearestRun(byte[] bytes) {
         ImageReader reader = new ImageReader();
-        model.read(reader);
+        Model.feed(reader, bytes);
+        reader.read();
         for (int i = 0; i < 40; i++) {
             reader.keep();
             reader.write();
