@@ -1,6 +1,8 @@
 /** Counts the answers of one test that are not as due, and ends the program by them. */
 final class Due {
 
+    private static final int NONE = ImageReader.NONE;
+
     private final String test;
     private int asked;
     private int wrong;
@@ -23,6 +25,32 @@ final class Due {
 
     void isTrue(String what, boolean got) {
         is(what, got, true);
+    }
+
+    void isText(String what, String got, String want) {
+        isTrue(what + " is as due", got.equals(want));
+    }
+
+    /** A new object reads the bytes, and answers the place, or NONE when they are well formed. */
+    void reads(String what, byte[] bytes, int place) {
+        Counted reader = new Counted().feed(bytes);
+        is(what + ": read()", reader.read(), place);
+        is(what + ": came(0) behind read()", reader.came(0), NONE);
+        isTrue(what + ": objects() behind read()", reader.objects() == 0 == (place != NONE));
+        is(what + ": the oracle's place", new Oracle(bytes).place(), place);
+    }
+
+    void reads(String what, Model model, int place) {
+        reads(what, model.bytes(), place);
+    }
+
+    void isWell(String what, Model model) {
+        reads(what, model, NONE);
+    }
+
+    /** Well formed, or else refused at the place. */
+    void isWellIf(boolean well, String what, Model model, int place) {
+        reads(what, model, well ? NONE : place);
     }
 
     void end() {

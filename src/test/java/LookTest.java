@@ -3,111 +3,276 @@ public final class LookTest {
 
     private static final Due DUE = new Due("LookTest");
     private static final int NONE = ImageReader.NONE;
-    private static final int[] NO_OBJECTS = {0, -1, Model.SMALL_COUNT + 1, 64, 8192, 65536,
-        Integer.MIN_VALUE, Integer.MAX_VALUE};
+    private static final int LEAST = Integer.MIN_VALUE;
+    private static final int MOST = Integer.MAX_VALUE;
+
+    /** Also such as would be there if their doubles or their low bits alone were looked at. */
+    private static final int[] NO_OBJECTS = {LEAST, LEAST + 1, -65535, -255, -29, -2, -1, 0,
+        Model.SMALL_COUNT + 1, Model.SMALL_COUNT + 2, 63, 64, 257, 8191, 8192, 65537, 1 << 30,
+        (1 << 30) + 1, MOST - 1, MOST};
 
     public static void main(String[] args) {
-        Model model = Model.small();
-        ImageReader reader = new ImageReader();
-        DUE.is("read()", model.read(reader), NONE);
-        countsAreRight(model, reader);
-        specialsAreRight(model, reader);
-        objectsAreRight(model, reader);
-        kindsAreRight(reader);
-        whatIsNotThere(reader);
-        aLaterImageTakesItsPlace(reader);
+        promise6Objects();
+        promise7Words();
+        promise8Special();
+        promise8NoneSuch();
+        promise9Kind();
+        promise9NoneSuch();
+        promise10ClassOf();
+        promise10NoneSuch();
+        promise11Size();
+        promise11NoneSuch();
+        promise12Field();
+        promise12NoneSuch();
+        promise13ByteAt();
+        promise13NoneSuch();
+        aLaterImageTakesItsPlace();
+        looksChangeNothing();
         DUE.end();
     }
 
-    private static int wordsOf(Model model) {
-        int words = 0;
-        for (Model.Thing thing : model.things) {
-            int size = thing.parts.length;
-            words += 4 + (thing.kind == Model.BYTES ? (int) Math.ceil(size / 4.0) : size);
-        }
-        return words;
+    private static Asker small() {
+        return new Asker(() -> Counted.with(Model.small()));
     }
 
-    private static void countsAreRight(Model model, ImageReader reader) {
-        DUE.is("objects()", reader.objects(), Model.SMALL_COUNT);
-        DUE.is("words()", reader.words(), wordsOf(model));
-        for (int size = 0; size < 10; size++) {
-            Model more = Model.small();
-            more.add(Model.BYTES_CLASS, Model.BYTES, new int[size]);
-            ImageReader other = new ImageReader();
-            more.read(other);
-            DUE.is("words() with " + size + " bytes", other.words(), wordsOf(more));
+    /** The small image with objects of 0, 1, 255, 256 and 700 fields and bytes behind the others. */
+    private static Model withSizes() {
+        Model model = Model.small();
+        for (int size : new int[] {0, 1, 255, 256, 700}) {
+            int[] fields = new int[size];
+            int[] bytes = new int[size];
+            for (int i = 0; i < size; i++) {
+                fields[i] = i % 2 == 0 ? Model.number(i - 300) : Model.object(i % 30);
+                bytes[i] = i + 3 & 255;
+            }
+            model.add(Model.PLAIN_CLASS, Model.FIELDS, fields);
+            model.add(Model.BYTES_CLASS, Model.BYTES, bytes);
+        }
+        return model;
+    }
+
+    /** "How many objects the image at hand has; 0 when there is none." */
+    private static void promise6Objects() {
+        Counted reader = new Counted();
+        DUE.is("none: objects()", reader.objects(), 0);
+        reader.feed(1, 2, 3, 4, 5);
+        reader.read();
+        DUE.is("none but a refused one: objects()", reader.objects(), 0);
+        for (int more : new int[] {0, 1, 2, 98, 99, 226, 227, 228}) {
+            Model model = Model.small().fillObjects(Model.SMALL_COUNT + more);
+            DUE.is("objects()", Counted.with(model).objects(), Model.SMALL_COUNT + more);
         }
     }
 
-    private static void specialsAreRight(Model model, ImageReader reader) {
+    /** "How many words they take; 0 when there is no image." */
+    private static void promise7Words() {
+        Counted reader = new Counted();
+        DUE.is("none: words()", reader.words(), 0);
+        Model ill = Model.small();
+        ill.thing(Model.PROCESS).parts[2] = 0;
+        DUE.is("refused: read()", reader.read(ill), Model.specialPlace(14));
+        DUE.is("none but a refused one: words()", reader.words(), 0);
+        int words = Model.small().words();
+        DUE.is("words()", Counted.with(Model.small()).words(), words);
+        for (int size = 0; size < 14; size++) {
+            Model bytes = Model.small();
+            bytes.add(Model.BYTES_CLASS, Model.BYTES, new int[size]);
+            int forThese = new int[] {0, 1, 1, 1, 1, 2, 2, 2, 2, 3, 3, 3, 3, 4}[size];
+            DUE.is("words() with " + size + " bytes", Counted.with(bytes).words(),
+                words + 4 + forThese);
+            Model fields = Model.small();
+            fields.add(Model.PLAIN_CLASS, Model.FIELDS, new int[size]);
+            DUE.is("words() with " + size + " fields", Counted.with(fields).words(),
+                words + 4 + size);
+        }
+    }
+
+    /** "Special value k" */
+    private static void promise8Special() {
+        Model model = Model.small();
+        for (int k = 15; k < 50; k++) {
+            model.specials[k] = k % 3 == 0 ? 0 : k % 3 == 1 ? Model.number(k) : Model.object(k / 2);
+        }
+        Counted reader = Counted.with(model);
         for (int k = 0; k < 50; k++) {
             DUE.is("special(" + k + ")", reader.special(k), model.specials[k]);
         }
-        for (int k : new int[] {-1, 50, 51, Integer.MIN_VALUE, Integer.MAX_VALUE}) {
+    }
+
+    /** "0 when there is none such." */
+    private static void promise8NoneSuch() {
+        Model model = Model.small();
+        model.specials[49] = Model.number(49);
+        Counted reader = Counted.with(model);
+        for (int k : new int[] {LEAST, LEAST + 1, -50, -1, 50, 51, 64, 256, 65536, 1 << 30, MOST}) {
             DUE.is("special(" + k + ")", reader.special(k), 0);
         }
+        DUE.is("special(0)", reader.special(0), 2);
+        DUE.is("special(49)", reader.special(49), Model.number(49));
     }
 
-    private static void objectsAreRight(Model model, ImageReader reader) {
-        for (int k = 1; k <= Model.SMALL_COUNT; k++) {
-            Model.Thing thing = model.thing(k);
-            boolean bytes = thing.kind == Model.BYTES;
-            DUE.is("classOf(" + k + ")", reader.classOf(k), thing.classValue);
-            DUE.is("size(" + k + ")", reader.size(k), thing.parts.length);
-            for (int i = 0; i < thing.parts.length; i++) {
-                int part = thing.parts[i];
-                DUE.is("field(" + k + ", " + i + ")", reader.field(k, i), bytes ? 0 : part);
-                DUE.is("byteAt(" + k + ", " + i + ")", reader.byteAt(k, i), bytes ? part : NONE);
-            }
-            for (int i : new int[] {-1, thing.parts.length, 300, Integer.MIN_VALUE, Integer.MAX_VALUE}) {
-                DUE.is("field(" + k + ", " + i + ")", reader.field(k, i), 0);
-                DUE.is("byteAt(" + k + ", " + i + ")", reader.byteAt(k, i), NONE);
-            }
-        }
-    }
-
-    private static void kindsAreRight(ImageReader reader) {
+    /** "0 when object k is of fields, 1 .. of bytes, 2 .. a method context, 3 a block context" */
+    private static void promise9Kind() {
+        Counted reader = Counted.with(Model.small());
         for (int k = 1; k <= Model.SMALL_COUNT; k++) {
             int want = k == Model.CODE ? 1 : k == Model.CONTEXT ? 2 : k == Model.BLOCK ? 3 : 0;
             DUE.is("kind(" + k + ")", reader.kind(k), want);
         }
+        Model empty = withSizes();
+        Asker asker = new Asker(() -> Counted.with(empty));
+        for (int k = Model.SMALL_COUNT + 1; k <= empty.things.size(); k++) {
+            int object = k;
+            DUE.is("kind(" + k + ")", asker.ask(r -> r.kind(object)), empty.thing(k).kind);
+        }
     }
 
-    private static void whatIsNotThere(ImageReader reader) {
+    /** "NONE when there is none such." */
+    private static void promise9NoneSuch() {
+        Asker asker = small();
         for (int k : NO_OBJECTS) {
-            DUE.is("kind(" + k + ")", reader.kind(k), NONE);
-            DUE.is("classOf(" + k + ")", reader.classOf(k), 0);
-            DUE.is("size(" + k + ")", reader.size(k), NONE);
-            DUE.is("field(" + k + ", 0)", reader.field(k, 0), 0);
-            DUE.is("byteAt(" + k + ", 0)", reader.byteAt(k, 0), NONE);
+            DUE.is("kind(" + k + ")", asker.ask(reader -> reader.kind(k)), NONE);
+        }
+        DUE.is("kind(1)", asker.ask(reader -> reader.kind(1)), 0);
+        DUE.is("kind of the last", asker.ask(reader -> reader.kind(Model.SMALL_COUNT)), 3);
+    }
+
+    /** "The class of object k" */
+    private static void promise10ClassOf() {
+        Model model = withSizes();
+        Asker asker = new Asker(() -> Counted.with(model));
+        for (int k = 1; k <= model.things.size(); k++) {
+            int object = k;
+            DUE.is("classOf(" + k + ")", asker.ask(reader -> reader.classOf(object)),
+                model.thing(k).classValue);
         }
     }
 
-    private static void aLaterImageTakesItsPlace(ImageReader reader) {
-        Model longer = Model.small();
-        int many = 400;
-        for (int i = 0; i < many; i++) {
-            longer.add(Model.PAIR_CLASS, Model.FIELDS, Model.number(i), Model.object(i + 1));
+    /** "0 when there is none such." */
+    private static void promise10NoneSuch() {
+        Asker asker = small();
+        for (int k : NO_OBJECTS) {
+            DUE.is("classOf(" + k + ")", asker.ask(reader -> reader.classOf(k)), 0);
         }
-        DUE.is("longer: read()", longer.read(reader), NONE);
-        DUE.is("longer: objects()", reader.objects(), Model.SMALL_COUNT + many);
-        DUE.is("longer: words()", reader.words(), wordsOf(longer));
-        objectsOfTheEnd(longer, reader);
-        Model small = Model.small();
-        small.specials[20] = 9;
-        DUE.is("small again: read()", small.read(reader), NONE);
-        DUE.is("small again: objects()", reader.objects(), Model.SMALL_COUNT);
-        DUE.is("small again: words()", reader.words(), wordsOf(small));
-        DUE.is("small again: special(20)", reader.special(20), 9);
-        whatIsNotThere(reader);
     }
 
-    private static void objectsOfTheEnd(Model model, ImageReader reader) {
-        for (int k = Model.SMALL_COUNT + 1; k <= model.things.size(); k++) {
-            DUE.is("classOf(" + k + ")", reader.classOf(k), model.thing(k).classValue);
-            DUE.is("field(" + k + ", 0)", reader.field(k, 0), model.thing(k).parts[0]);
-            DUE.is("field(" + k + ", 1)", reader.field(k, 1), model.thing(k).parts[1]);
+    /** "How many fields or bytes object k has" */
+    private static void promise11Size() {
+        Model model = withSizes();
+        Asker asker = new Asker(() -> Counted.with(model));
+        for (int k = 1; k <= model.things.size(); k++) {
+            int object = k;
+            DUE.is("size(" + k + ")", asker.ask(reader -> reader.size(object)),
+                model.thing(k).parts.length);
         }
+    }
+
+    /** "NONE when there is none such." */
+    private static void promise11NoneSuch() {
+        Asker asker = small();
+        for (int k : NO_OBJECTS) {
+            DUE.is("size(" + k + ")", asker.ask(reader -> reader.size(k)), NONE);
+        }
+        DUE.is("size of one without fields", asker.ask(reader -> reader.size(1)), 0);
+    }
+
+    private static void parts(boolean asFields) {
+        Model model = withSizes();
+        Asker asker = new Asker(() -> Counted.with(model));
+        for (int k = 1; k <= model.things.size(); k++) {
+            Model.Thing thing = model.thing(k);
+            boolean such = asFields == (thing.kind == Model.FIELDS);
+            for (int i = 0; i < thing.parts.length; i++) {
+                int want = such ? thing.parts[i] : asFields ? 0 : NONE;
+                part(asker, asFields, k, i, want);
+            }
+        }
+    }
+
+    private static void part(Asker asker, boolean asFields, int k, int i, int want) {
+        if (asFields) {
+            DUE.is("field(" + k + ", " + i + ")", asker.ask(r -> r.field(k, i)), want);
+        } else {
+            DUE.is("byteAt(" + k + ", " + i + ")", asker.ask(r -> r.byteAt(k, i)), want);
+        }
+    }
+
+    private static void noParts(boolean asFields) {
+        Model model = withSizes();
+        Asker asker = new Asker(() -> Counted.with(model));
+        int want = asFields ? 0 : NONE;
+        for (int k = 1; k <= model.things.size(); k++) {
+            int size = model.thing(k).parts.length;
+            for (int i : new int[] {LEAST, -size - 1, -1, size, size + 1, size + 256, 65536, 1 << 30,
+                MOST}) {
+                part(asker, asFields, k, i, want);
+            }
+        }
+        Asker small = small();
+        for (int k : NO_OBJECTS) {
+            for (int i : new int[] {LEAST, -1, 0, 1, MOST}) {
+                part(small, asFields, k, i, want);
+            }
+        }
+    }
+
+    /** "Field i of object k"; an object of bytes has none. */
+    private static void promise12Field() {
+        parts(true);
+    }
+
+    /** "0 when there is none such." */
+    private static void promise12NoneSuch() {
+        noParts(true);
+    }
+
+    /** "Byte i of object k"; an object of fields has none. */
+    private static void promise13ByteAt() {
+        parts(false);
+    }
+
+    /** "NONE when there is none such." */
+    private static void promise13NoneSuch() {
+        noParts(false);
+    }
+
+    private static void aLaterImageTakesItsPlace() {
+        Model longer = withSizes();
+        Model later = Model.small();
+        later.specials[20] = Model.number(9);
+        String fresh = new Asker(() -> Counted.with(later)).state();
+        Asker both = new Asker(() -> {
+            Counted reader = Counted.with(longer);
+            DUE.is("later: read()", reader.read(later), NONE);
+            return reader;
+        });
+        DUE.isText("the state of a shorter image behind a longer one", both.state(), fresh);
+        String ofLonger = new Asker(() -> Counted.with(longer)).state();
+        Asker back = new Asker(() -> {
+            Counted reader = Counted.with(later);
+            DUE.is("longer: read()", reader.read(longer), NONE);
+            return reader;
+        });
+        DUE.isText("the state of a longer image behind a shorter one", back.state(), ofLonger);
+    }
+
+    private static void looksChangeNothing() {
+        String before = small().state();
+        Asker after = new Asker(() -> {
+            Counted reader = Counted.with(Model.small());
+            for (int k : NO_OBJECTS) {
+                reader.special(k);
+                reader.kind(k);
+                reader.classOf(k);
+                reader.size(k);
+                reader.field(k, 0);
+                reader.byteAt(k, 0);
+                reader.field(1, k);
+                reader.byteAt(Model.CODE, k);
+            }
+            reader.reachable();
+            reader.same();
+            return reader;
+        });
+        DUE.isText("the state behind looks", after.state(), before);
     }
 }

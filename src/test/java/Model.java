@@ -1,8 +1,11 @@
 import java.io.ByteArrayOutputStream;
 import java.util.ArrayList;
+import java.util.Arrays;
+import java.util.Collections;
 import java.util.List;
+import java.util.function.IntUnaryOperator;
 
-/** An image as the tests write it down: every part can be set to anything, also to what is wrong. */
+/** An image as the tests write it down: every part may be set to anything, also to what is wrong. */
 final class Model {
 
     static final int FIELDS = 0;
@@ -85,6 +88,35 @@ final class Model {
         return copy;
     }
 
+    /** The same image with its objects numbered anew: object k becomes object numbers(k). */
+    private Model renumbered(IntUnaryOperator numbers) {
+        IntUnaryOperator values = value ->
+            (value & 1) != 0 || value == 0 ? value : object(numbers.applyAsInt(value / 2));
+        Model model = copy();
+        Arrays.setAll(model.specials, k -> values.applyAsInt(specials[k]));
+        for (Thing thing : model.things) {
+            thing.classValue = values.applyAsInt(thing.classValue);
+            if (thing.kind == FIELDS) {
+                thing.parts = Arrays.stream(thing.parts).map(values).toArray();
+            }
+        }
+        return model;
+    }
+
+    /** The same image with its last object first. */
+    Model reversed() {
+        Model model = renumbered(k -> things.size() + 1 - k);
+        Collections.reverse(model.things);
+        return model;
+    }
+
+    /** The same image behind one more object that is of no use to it. */
+    Model behind(Thing first) {
+        Model model = renumbered(k -> k + 1);
+        model.things.add(0, first);
+        return model;
+    }
+
     static int specialPlace(int k) {
         return 8 + 4 * k;
     }
@@ -99,6 +131,31 @@ final class Model {
 
     int fieldPlace(int k, int i) {
         return place(k) + 7 + 4 * i;
+    }
+
+    /** How many words the objects take. */
+    int words() {
+        int words = 0;
+        for (Thing thing : things) {
+            int size = thing.parts.length;
+            words += 4 + (thing.kind == BYTES ? (int) Math.ceil(size / 4.0) : size);
+        }
+        return words;
+    }
+
+    /** The most words for the fewest bytes: objects without fields, as many as these words hold. */
+    Model fillWords(int words) {
+        for (int left = words - words(); left >= 4; left -= 4) {
+            add(EMPTY_CLASS, FIELDS);
+        }
+        return this;
+    }
+
+    Model fillObjects(int objects) {
+        while (things.size() < objects) {
+            add(EMPTY_CLASS, FIELDS);
+        }
+        return this;
     }
 
     byte[] bytes() {
@@ -130,25 +187,6 @@ final class Model {
         out.write(value >>> 16);
         out.write(value >>> 8);
         out.write(value);
-    }
-
-    static void feed(ImageReader reader, byte[] bytes) {
-        int[] words = new int[5];
-        for (int at = 0; at < bytes.length; at += 20) {
-            for (int i = 0; i < 5; i++) {
-                words[i] = 0;
-                for (int j = at + 4 * i; j < at + 4 * i + 4; j++) {
-                    words[i] = (words[i] << 8) | (j < bytes.length ? bytes[j] & 255 : 170);
-                }
-            }
-            reader.feed(words[0], words[1], words[2], words[3], words[4]);
-        }
-        reader.end(bytes.length);
-    }
-
-    int read(ImageReader reader) {
-        feed(reader, bytes());
-        return reader.read();
     }
 
     private static int classWith(Model model, int shape) {

@@ -5,6 +5,7 @@ import java.util.HashSet;
 import java.util.List;
 import java.util.Map;
 import java.util.Set;
+import java.util.TreeSet;
 
 /**
  * The document's terms once more, written apart from the class: straight from the bytes, with
@@ -280,9 +281,68 @@ final class Oracle {
             && isNumber(field(process, 2), 1, 8);
     }
 
-    /** Only behind place() of NONE: how many objects can be reached. */
+    /** What follows is asked only behind place() of NONE. */
+    int objects() {
+        return n;
+    }
+
+    int specialAt(int k) {
+        return k < 0 || k > 49 ? 0 : specials.get(k);
+    }
+
+    private Node numbered(int k) {
+        return k < 1 || k > n ? null : nodes.get(k - 1);
+    }
+
+    int kind(int k) {
+        Node node = numbered(k);
+        if (node == null) {
+            return NONE;
+        }
+        return isContext(node) ? node.type == specials.get(7) ? 2 : 3 : node.bytes ? 1 : 0;
+    }
+
+    int classOf(int k) {
+        return numbered(k) == null ? 0 : numbered(k).type;
+    }
+
+    int size(int k) {
+        return numbered(k) == null ? NONE : numbered(k).parts.size();
+    }
+
+    int field(int k, int i) {
+        Integer value = i < 0 ? null : field(numbered(k), i);
+        return value == null ? 0 : value;
+    }
+
+    int byteAt(int k, int i) {
+        Node node = numbered(k);
+        return node == null || !node.bytes || i < 0 || i >= node.parts.size() ? NONE : node.parts.get(i);
+    }
+
     int reachable() {
         return inOrder().size();
+    }
+
+    /** The bytes of the image with its reachable objects alone. */
+    byte[] written() {
+        Map<Integer, Integer> numbers = new HashMap<>();
+        for (int value : new TreeSet<>(inOrder().keySet())) {
+            numbers.put(value, Model.object(numbers.size() + 1));
+        }
+        Model model = new Model();
+        model.w = bytes[4];
+        model.e = bytes[5];
+        for (int k = 0; k < 50; k++) {
+            model.specials[k] = numbers.getOrDefault(specials.get(k), specials.get(k));
+        }
+        for (Integer value : new TreeSet<>(numbers.keySet())) {
+            Node node = node(value);
+            int[] parts = node.parts.stream()
+                .mapToInt(part -> node.bytes ? part : numbers.getOrDefault(part, part)).toArray();
+            model.things.add(new Model.Thing(numbers.get(node.type), node.bytes ? 1 : 0, parts));
+        }
+        return model.bytes();
     }
 
     /** Objects by the order in which they are met first, with that order's number. */

