@@ -14,6 +14,7 @@ public final class BytesTest {
         promise1ObjectsAreApart();
         promise2HighestByteFirst();
         promise2BehindThoseThatCame();
+        promise2AsManyAsCallsBring();
         promise3OnlyTheFirst();
         promise3HowManyThereWere();
         promise3NotSoManyOrBelowZero();
@@ -122,13 +123,26 @@ public final class BytesTest {
         }
     }
 
+    /** No 512 calls bring as many as are refused; LimitsTest goes on from here. */
+    private static void promise2AsManyAsCallsBring() {
+        Counted reader = new Counted();
+        int feeds = Counted.MOST_CALLS - 3;
+        for (int i = 1; i <= feeds; i++) {
+            DUE.is("feed " + i + " throws", reader.feedThrows(i, i, i, i, i), false);
+        }
+        DUE.is("the last of all", reader.came(20 * feeds - 1), feeds & 255);
+        DUE.is("behind the last of all", reader.came(20 * feeds), NONE);
+        DUE.is("how many", reader.end(0), 20 * feeds);
+    }
+
     /** "The bytes that came in are only the first n." */
     private static void promise3OnlyTheFirst() {
         for (int n = 0; n <= 20; n++) {
             Counted reader = twenty();
             reader.end(n);
             for (int i = 0; i < 21; i++) {
-                DUE.is("end(" + n + "): came(" + i + ")", reader.came(i), i < n ? twentyAt(i) : NONE);
+                int want = i < n ? twentyAt(i) : NONE;
+                DUE.is("end(" + n + "): came(" + i + ")", reader.came(i), want);
             }
             DUE.is("end(" + n + "): change behind", reader.change(n, 1), NONE);
             DUE.is("end(" + n + "): end again", reader.end(n), n);

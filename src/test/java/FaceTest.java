@@ -22,14 +22,16 @@ public final class FaceTest {
         for (Method method : face.getDeclaredMethods()) {
             if (!Modifier.isPrivate(method.getModifiers())) {
                 due.isTrue(method + " is public", Modifier.isPublic(method.getModifiers()));
+                String parameters = Arrays.toString(method.getParameterTypes());
                 seen.add(method.getReturnType() + " " + method.getName()
-                    + Arrays.toString(method.getParameterTypes()).replace('[', '(').replace(']', ')'));
+                    + parameters.replace('[', '(').replace(']', ')'));
             }
         }
         due.isTrue("the methods are " + seen, seen.equals(new TreeSet<>(Arrays.asList(FACE))));
         for (Field field : face.getDeclaredFields()) {
             boolean isPrivate = Modifier.isPrivate(field.getModifiers());
-            due.isTrue(field + " is seen as it should be", isPrivate != field.getName().equals("NONE"));
+            boolean isOfTheFace = field.getName().equals("NONE");
+            due.isTrue(field + " is seen as it should be", isPrivate != isOfTheFace);
             due.isTrue(field + " is no state of the class", !Modifier.isStatic(field.getModifiers())
                 || Modifier.isFinal(field.getModifiers()));
         }

@@ -35,7 +35,7 @@ public final class LookTest {
         return new Asker(() -> Counted.with(Model.small()));
     }
 
-    /** The small image with objects of 0, 1, 255, 256 and 700 fields and bytes behind the others. */
+    /** The small image with objects of 0, 1, 255, 256 and 700 fields and bytes behind it. */
     private static Model withSizes() {
         Model model = Model.small();
         for (int size : new int[] {0, 1, 255, 256, 700}) {
@@ -202,8 +202,8 @@ public final class LookTest {
         int want = asFields ? 0 : NONE;
         for (int k = 1; k <= model.things.size(); k++) {
             int size = model.thing(k).parts.length;
-            for (int i : new int[] {LEAST, -size - 1, -1, size, size + 1, size + 256, 65536, 1 << 30,
-                MOST}) {
+            for (int i : new int[] {LEAST, -size - 1, -1, size, size + 1, size + 256, 65536,
+                1 << 30, MOST}) {
                 part(asker, asFields, k, i, want);
             }
         }

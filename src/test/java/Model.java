@@ -5,7 +5,7 @@ import java.util.Collections;
 import java.util.List;
 import java.util.function.IntUnaryOperator;
 
-/** An image as the tests write it down: every part may be set to anything, also to what is wrong. */
+/** An image as the tests write it down: every part may be set to anything, right or wrong. */
 final class Model {
 
     static final int FIELDS = 0;

@@ -119,6 +119,13 @@ public final class ObjectsTest {
             model.thing(k).classValue = Model.number(3);
             DUE.reads("objects " + k + " and on without a class", model, model.place(k));
         }
+        Model context = Model.small();
+        context.thing(Model.BLOCK).classValue = 0;
+        DUE.reads("no class behind a context", context, context.place(Model.BLOCK));
+        context.thing(Model.CONTEXT).parts[4 + 7] = 1;
+        DUE.reads("an ill context before one without a class", context, context.place(28));
+        context.thing(Model.METHOD).classValue = 0;
+        DUE.reads("one without a class before an ill context", context, context.place(27));
     }
 
     /** "if it is a context it is a method context or a block context as told" */

@@ -215,7 +215,8 @@ final class Oracle {
         if (node.bytes != (shape[2] == 1)) {
             return false;
         }
-        if (!node.bytes && (node.fields() < shape[0] || shape[1] == 0 && node.fields() > shape[0])) {
+        int more = node.fields() - shape[0];
+        if (!node.bytes && (more < 0 || more > 0 && shape[1] == 0)) {
             return false;
         }
         if (!isContext(node)) {
@@ -317,7 +318,8 @@ final class Oracle {
 
     int byteAt(int k, int i) {
         Node node = numbered(k);
-        return node == null || !node.bytes || i < 0 || i >= node.parts.size() ? NONE : node.parts.get(i);
+        boolean has = node != null && node.bytes && i >= 0 && i < node.parts.size();
+        return has ? node.parts.get(i) : NONE;
     }
 
     int reachable() {

@@ -10,6 +10,7 @@ public final class RefusalTest {
         promise5UsesTheBytesUp();
         promise5TheImageIsAtHandThen();
         promise5TheImageAtHandStays();
+        promise5AsLargeAsCallsBring();
         rule1EachByte();
         rule1EndsBefore();
         rule1HowManyObjects();
@@ -64,6 +65,26 @@ public final class RefusalTest {
         }
     }
 
+    /** An image of as many bytes as 512 calls bring, with one left to look at it. */
+    private static void promise5AsLargeAsCallsBring() {
+        int length = 20 * (Counted.MOST_CALLS - 3);
+        Model model = Model.small();
+        int size = length - model.bytes().length - 7;
+        int last = model.add(Model.BYTES_CLASS, Model.BYTES, new int[size]);
+        model.thing(last).parts[size - 1] = 200;
+        Counted reader = new Counted();
+        DUE.is("the largest: read()", reader.read(model), NONE);
+        DUE.is("the largest: its last byte", reader.byteAt(last, size - 1), 200);
+        DUE.is("calls left", reader.left(), 0);
+        byte[] bytes = model.bytes();
+        bytes[model.place(last) + 6]++;
+        Counted other = new Counted().feed(bytes);
+        DUE.is("one byte too few: read()", other.read(), model.place(last) + 7);
+        bytes[model.place(last) + 6] -= 2;
+        other = new Counted().feed(bytes);
+        DUE.is("one byte too many: read()", other.read(), length - 1);
+    }
+
     /** "otherwise the place at which it is refused (and the image at hand stays)" */
     private static void promise5TheImageAtHandStays() {
         String before = new Asker(() -> Counted.with(Model.small())).state();
@@ -96,7 +117,7 @@ public final class RefusalTest {
         return bytes;
     }
 
-    /** "0 .. 3 are 77, 77, 1, 0. 4: w, 12 .. 18. 5: e, 10 .. 14.", "at the first byte that is not" */
+    /** "0 .. 3 are 77, 77, 1, 0. 4: w, 12 .. 18. 5: e, 10 .. 14.": at the first that is not */
     private static void rule1EachByte() {
         int[] least = {77, 77, 1, 0, 12, 10};
         int[] most = {77, 77, 1, 0, 18, 14};
@@ -145,7 +166,7 @@ public final class RefusalTest {
         }
     }
 
-    /** "each special value, and then of each object its class, its kind, its size, and its fields" */
+    /** "each special value, and then of each object its class .. are there whole": cut anywhere */
     private static void rule2ThereWhole() {
         Model small = Model.small();
         byte[] good = small.bytes();
@@ -427,6 +448,21 @@ public final class RefusalTest {
             model.specials[k] = 0;
             DUE.reads("S" + k + " .. S14 are nil", model, Model.specialPlace(k));
         }
+        int noClass = Model.object(Model.LISTS);
+        both("S1 is S0, S2 no class", 1, Model.object(1), 2, noClass);
+        both("S3 is S2, S5 no class", 3, Model.object(3), 5, noClass);
+        both("S3 no class, S5 is S2", 3, noClass, 5, Model.object(3));
+        both("S12 is S2, S13 no object of 256", 12, Model.object(3), 13, noClass);
+        both("S12 no class, S14 a context", 12, noClass, 14, Model.object(Model.CONTEXT));
+        both("S13 no object of 256, S14 a context", 13, noClass, 14, Model.object(Model.BLOCK));
+    }
+
+    private static void both(String what, int first, int value, int second, int another) {
+        Model model = Model.small();
+        model.specials[second] = another;
+        DUE.reads(what + ", the second alone", model, Model.specialPlace(second));
+        model.specials[first] = value;
+        DUE.reads(what, model, Model.specialPlace(first));
     }
 
     /** "the first that is told here, going along" */

@@ -162,7 +162,8 @@ public final class RunTest {
                 DUE.is(name + "size(" + k + ")", reader.size(k), shadow.size(k));
                 break;
             case 7:
-                DUE.is(name + "field(" + k + ", " + i + ")", reader.field(k, i), shadow.field(k, i));
+                DUE.is(name + "field(" + k + ", " + i + ")", reader.field(k, i),
+                    shadow.field(k, i));
                 break;
             default:
                 DUE.is(name + "byteAt(" + k + ", " + i + ")", reader.byteAt(k, i),

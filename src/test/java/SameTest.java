@@ -140,6 +140,10 @@ public final class SameTest {
         broken = longer.reversed();
         broken.thing(139).parts[1] = 3;
         same("longer, the last number is another", longer, broken, false);
+        longer.specials[40] = Model.object(Model.BLOCK);
+        broken = longer.copy();
+        broken.thing(Model.SMALL_COUNT + 1).parts[1] = 3;
+        same("all are reachable, the last that is met has another number", longer, broken, false);
         Model two = model.copy();
         two.specials[0] = model.specials[1];
         two.specials[1] = model.specials[0];
@@ -303,8 +307,27 @@ public final class SameTest {
         same("two rings and one", two, linked, false);
     }
 
-    /** Nothing of an earlier comparison tells in a later one. */
+    /** Nothing of an earlier comparison tells in a later one, be it of more objects or of fewer. */
     private static void promise18OneAfterAnother() {
+        Model more = Model.small();
+        for (int i = 0; i < 20; i++) {
+            more.add(Model.PAIR_CLASS, Model.FIELDS, Model.object(Model.SMALL_COUNT + i), 1);
+        }
+        Model cut = more.copy();
+        for (int i = 0; i < 20; i++) {
+            more.specials[22 + i] = Model.object(Model.SMALL_COUNT + 1 + i);
+        }
+        Counted reader = new Counted();
+        for (Model model : new Model[] {more, cut, more}) {
+            DUE.is("more or fewer: read()", reader.read(model), NONE);
+            DUE.is("more or fewer, before keep(): same()", reader.same(), false);
+            reader.keep();
+            DUE.is("more or fewer, behind keep(): same()", reader.same(), true);
+        }
+        ofTheSameNumbers();
+    }
+
+    private static void ofTheSameNumbers() {
         int plainClass = Model.object(Model.PLAIN_CLASS + 1);
         Model shifted = Model.small().behind(new Model.Thing(plainClass, Model.FIELDS, 1, 3, 5));
         Counted reader = Counted.with(Model.small());

@@ -62,7 +62,7 @@ public final class TermsTest {
         }
     }
 
-    /** "nothing else is one": even ones at both ends, and those that are objects by their low bits. */
+    /** "nothing else is one": even ones at both ends, and such as are objects by their low bits. */
     private static void nothingElseIsAValue() {
         int least = Integer.MIN_VALUE;
         int most = Integer.MAX_VALUE;

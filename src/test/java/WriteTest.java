@@ -16,6 +16,7 @@ public final class WriteTest {
         promise14NotByBytesOrNumbers();
         promise14Rings();
         promise14LongChains();
+        promise14OneAfterAnother();
         promise15WithoutAnImage();
         promise15ReachableObjectsAlone();
         promise15NumberedAnewInTheirOrder();
@@ -152,6 +153,22 @@ public final class WriteTest {
         reaches("a broken chain", model, ALL - 1 + 100);
     }
 
+    /** Nothing of an earlier image tells in a later one. */
+    private static void promise14OneAfterAnother() {
+        Model cut = chain(60);
+        Model whole = chain(60);
+        for (int i = 0; i < 20; i++) {
+            whole.specials[22 + i] = Model.object(ALL + 1 + 2 * i);
+        }
+        Counted reader = Counted.with(whole);
+        DUE.is("a chain: reachable()", reader.reachable(), ALL - 1 + 60);
+        DUE.is("a chain apart: read()", reader.read(cut), NONE);
+        DUE.is("a chain apart: reachable()", reader.reachable(), ALL - 1);
+        DUE.is("a chain apart again: reachable()", reader.reachable(), ALL - 1);
+        DUE.is("a chain again: read()", reader.read(whole), NONE);
+        DUE.is("a chain again: reachable()", reader.reachable(), ALL - 1 + 60);
+    }
+
     /** "NONE when there is no image." */
     private static void promise15WithoutAnImage() {
         Counted reader = new Counted();
@@ -189,9 +206,13 @@ public final class WriteTest {
         more.add(Model.BYTES_CLASS, Model.BYTES, 1, 2, 3);
         more.add(Model.PAIR_CLASS, Model.FIELDS, Model.object(30), Model.object(31));
         writes("the last three are not", more, want.bytes());
+        Model many = chain(300);
+        many.specials[33] = Model.object(ALL + 1);
+        many.specials[49] = Model.object(Model.BLOCK);
+        writes("329 are reachable", many, many.bytes());
     }
 
-    /** "numbered anew in their order": by an object that nothing reaches before each of the others. */
+    /** "numbered anew in their order": an object that nothing reaches stands before each other. */
     private static void promise15NumberedAnewInTheirOrder() {
         Model want = Model.small();
         want.specials[15] = Model.object(Model.BLOCK);
