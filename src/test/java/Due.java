@@ -2,6 +2,7 @@
 final class Due {
 
     private static final int NONE = ImageReader.NONE;
+    private static final long MOST_MILLISECONDS = 300_000;
 
     private final String test;
     private int asked;
@@ -9,6 +10,20 @@ final class Due {
 
     Due(String test) {
         this.test = test;
+        Thread watch = new Thread(this::failWhenLate);
+        watch.setDaemon(true);
+        watch.start();
+    }
+
+    /** A call that does not end is a wrong answer too; a test takes some seconds otherwise. */
+    private void failWhenLate() {
+        try {
+            Thread.sleep(MOST_MILLISECONDS);
+        } catch (InterruptedException woken) {
+            return;
+        }
+        System.out.println(test + ": a call does not end");
+        Runtime.getRuntime().halt(1);
     }
 
     void is(String call, long got, long want) {
