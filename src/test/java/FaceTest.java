@@ -28,6 +28,8 @@ public final class FaceTest {
             }
         }
         due.isTrue("the methods are " + seen, seen.equals(new TreeSet<>(Arrays.asList(FACE))));
+        due.is("NONE", ImageReader.NONE, -1);
+        exceptionsAreNamed(due);
         for (Field field : face.getDeclaredFields()) {
             boolean isPrivate = Modifier.isPrivate(field.getModifiers());
             boolean isOfTheFace = field.getName().equals("NONE");
@@ -42,5 +44,19 @@ public final class FaceTest {
         due.isTrue("the class is public and final", Modifier.isPublic(face.getModifiers())
             && Modifier.isFinal(face.getModifiers()));
         due.end();
+    }
+
+    /** Two calls name the exception that they throw; no other call names one. */
+    private static void exceptionsAreNamed(Due due) {
+        for (Method method : ImageReader.class.getDeclaredMethods()) {
+            String named = Arrays.toString(method.getExceptionTypes());
+            String want = "[]";
+            if (method.getName().equals("feed")) {
+                want = "[class java.lang.IllegalStateException]";
+            } else if (method.getName().equals("end")) {
+                want = "[class java.lang.IllegalArgumentException]";
+            }
+            due.isText("what " + method.getName() + " throws", named, want);
+        }
     }
 }

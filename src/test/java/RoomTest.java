@@ -3,11 +3,18 @@ import java.lang.management.ManagementFactory;
 /** What the dearest run of 512 calls makes, so that rows are used again and not made again. */
 public final class RoomTest {
 
-    /** 7.3 million elements of four bytes each, the room in which all calls of a run live. */
-    private static final long MOST_OF_A_RUN = 4 * 7_300_000L;
+    /**
+     * The room of a run is 7.3 million fields and elements and 600,000 objects. An element takes a
+     * byte or more, and an object twelve or more, so that so many bytes keep within both.
+     */
+    private static final long MOST_OF_A_RUN = 7_200_000L;
+
+    /** Less than a row of an image of this test takes; a machine may make something of its own. */
+    private static final long MOST_OF_ROUNDS = 1_000L;
+
+    private static final Due DUE = new Due("RoomTest");
 
     public static void main(String[] args) {
-        Due due = new Due("RoomTest");
         if (!(ManagementFactory.getThreadMXBean() instanceof com.sun.management.ThreadMXBean)) {
             System.out.println("RoomTest: this machine does not count what is made");
             return;
@@ -15,10 +22,14 @@ public final class RoomTest {
         byte[] bytes = longImage();
         dearestRun(bytes);
         long before = made();
-        dearestRun(bytes);
+        Counted reader = dearestRun(bytes);
         long run = made() - before;
-        due.isTrue("a run makes " + run + " bytes, few enough", run < MOST_OF_A_RUN);
-        due.end();
+        DUE.isTrue("a run makes " + run + " bytes, few enough", run < MOST_OF_A_RUN);
+        before = made();
+        rounds(reader, 30);
+        long again = made() - before;
+        DUE.isTrue("rounds make " + again + " bytes, almost none", again < MOST_OF_ROUNDS);
+        DUE.end();
     }
 
     private static long made() {
@@ -38,10 +49,15 @@ public final class RoomTest {
     }
 
     /** Some 300 calls feed the image, the others read and write it over and over. */
-    private static void dearestRun(byte[] bytes) {
+    private static Counted dearestRun(byte[] bytes) {
         Counted reader = new Counted().feed(bytes);
         reader.read();
-        for (int i = 0; i < 40; i++) {
+        rounds(reader, 10);
+        return reader;
+    }
+
+    private static void rounds(Counted reader, int many) {
+        for (int i = 0; i < many; i++) {
             reader.keep();
             reader.write();
             reader.read();
